@@ -1,0 +1,70 @@
+import java.util.function.LongSupplier;
+
+/** Counts the answers of a test that are not the ones that are due. */
+final class Due {
+    private final String name;
+    private int asked = 0;
+    private int wrong = 0;
+
+    Due(String name) {
+        this.name = name;
+    }
+
+    void is(String call, long got, long want) {
+        asked++;
+        if (got != want) {
+            wrong++;
+            System.out.println(name + ": " + call + " answered " + got + ", due is " + want);
+        }
+    }
+
+    /** The same answer for calls 0 .. n less 1. */
+    void row(String call, long[] want, java.util.function.LongUnaryOperator got) {
+        for (int k = 0; k < want.length; k++) {
+            is(call + " " + k, got.applyAsLong(k), want[k]);
+        }
+    }
+
+    /** A call, and the FAULT that is told behind it. */
+    void faults(DifferRings x, String call, LongSupplier got, long want, int fault) {
+        is(call, got.getAsLong(), want);
+        is(call + ", then fault()", x.fault(), fault);
+    }
+
+    void holds(String what, boolean so) {
+        is(what, so ? 1 : 0, 1);
+    }
+
+    void end() {
+        System.out.println(name + ": " + asked + " answers, " + wrong + " wrong");
+        if (wrong != 0 || asked == 0) {
+            System.exit(1);
+        }
+    }
+
+    /** Puts codes or numbers on a new row of a SHEET. */
+    static void fill(DifferRings x, int sheet, int lane, int... cells) {
+        x.sheet(sheet, lane, cells.length);
+        for (int i = 0; i < cells.length; i++) {
+            x.put(sheet, i, cells[i]);
+        }
+    }
+
+    static int[] codes(String text) {
+        return text.chars().toArray();
+    }
+
+    /** A RING by a TEXT on SHEET 3, that is told as bytes. */
+    static int tell(DifferRings x, String text) {
+        fill(x, 3, 0, codes(text));
+        return x.ring(3, 0, 0, text.length());
+    }
+
+    static DifferRings ringOf(String text) {
+        DifferRings x = new DifferRings();
+        if (tell(x, text) < 2) {
+            throw new IllegalStateException("the test's own text is wrong: " + text);
+        }
+        return x;
+    }
+}
