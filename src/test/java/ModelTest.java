@@ -1,0 +1,205 @@
+import java.util.Random;
+
+/** Runs of calls by chance (always the same ones), each answered by the class and by the model. */
+public final class ModelTest {
+    private static final int RUNS = 400;
+    private static final int CALLS = 500;
+    private static final String[] NAMES = {
+        "ring", "ofPlace", "write", "steps", "after", "day", "now", "from", "rows", "longest", "meet", "few", "reading",
+        "back", "kinds", "firsts", "odds", "sheet", "lose", "put", "cell", "copy", "tell", "call", "as", "trace",
+        "fault", "many"};
+
+    private final Due due = new Due("ModelTest");
+    private final Random chance = new Random(20261117);
+    private DifferRings x;
+    private Model m;
+    private int lane;
+    private long first;
+    private int a;
+    private int b;
+    private int c;
+    private int d;
+    private int e;
+
+    public static void main(String[] args) {
+        ModelTest test = new ModelTest();
+        for (int run = 0; run < RUNS; run++) {
+            test.run(run);
+        }
+        test.due.end();
+    }
+
+    private void run(int run) {
+        x = new DifferRings();
+        m = new Model();
+        int calls = 0;
+        while (calls < CALLS - 64) {
+            if (chance.nextInt(25) == 0) {
+                calls += text(run);
+            } else if (chance.nextInt(20) == 0) {
+                calls += numbers(run);
+            } else {
+                ask(run, chance.nextInt(NAMES.length));
+                calls++;
+            }
+            due.is("run " + run + " fault()", x.fault(), m.fault());
+            calls++;
+        }
+    }
+
+    private void fill(int run, int k, int lane, int[] cells) {
+        due.is("run " + run + " sheet", x.sheet(k, lane, cells.length), m.sheet(k, lane, cells.length));
+        for (int i = 0; i < cells.length; i++) {
+            due.is("run " + run + " put", x.put(k, i, cells[i]), m.put(k, i, cells[i]));
+        }
+    }
+
+    /** A TEXT, often one with a fault; few PLACES as a rule, since the model is slow. */
+    private int text(int run) {
+        int places = chance.nextInt(6) == 0 ? chance.nextInt(8) : 2 + chance.nextInt(3);
+        int most = places > 3 ? 3 : 6;
+        StringBuilder text = new StringBuilder("r");
+        int base = 2 + chance.nextInt(most - 1);
+        text.append(base);
+        for (int p = 0; p < places; p++) {
+            text.append(';').append("pfm".charAt(chance.nextInt(3))).append(chance.nextInt(base));
+        }
+        if (chance.nextInt(4) == 0) {
+            text.setCharAt(chance.nextInt(text.length()), "rpfm;0123456789x".charAt(chance.nextInt(16)));
+        }
+        if (chance.nextInt(8) == 0) {
+            text.setLength(chance.nextInt(text.length()));
+        }
+        int[] codes = Due.codes(text.toString());
+        int k = chance.nextInt(4);
+        int lane = chance.nextInt(3);
+        fill(run, k, lane, codes);
+        int i = chance.nextInt(8) == 0 ? 1 : 0;
+        int n = codes.length - i;
+        due.is("run " + run + " ring of " + text, x.ring(k, lane, i, n), m.ring(k, lane, i, n));
+        return codes.length + 2;
+    }
+
+    /** Pairs that are acts, mostly; a ROW, too, where they are small. */
+    private int numbers(int run) {
+        int[] cells = new int[chance.nextInt(14)];
+        for (int i = 0; i < cells.length; i++) {
+            boolean odd = i % 2 == 1;
+            cells[i] = odd && chance.nextInt(3) == 0 ? 9 : chance.nextInt(chance.nextInt(4) == 0 ? 6 : 3);
+        }
+        int k = chance.nextInt(4);
+        int lane = chance.nextInt(3);
+        fill(run, k, lane, cells);
+        int calls = cells.length + 1;
+        for (int what : new int[] {0, 1, 2, 3, 4, 10, 11, 12, 13, 14}) {
+            int n = chance.nextInt(cells.length / 2 + 1);
+            due.is("run " + run + " day " + what, x.day(k, lane, 0, n, what), m.day(k, lane, 0, n, what));
+            calls++;
+        }
+        for (int i = 0; i < 3; i++) {
+            due.is("run " + run + " meet", x.meet(k, lane, i), m.meet(k, lane, i));
+            calls++;
+        }
+        return calls;
+    }
+
+    private int some(int least, int most) {
+        int wild = chance.nextInt(60);
+        if (wild == 0) {
+            return Integer.MAX_VALUE;
+        }
+        if (wild == 1) {
+            return Integer.MIN_VALUE;
+        }
+        return least - 1 + chance.nextInt(most - least + 3);
+    }
+
+    private static final int[][] RANGES = {
+        {0, 3, 0, 2, 0, 5, 0, 20}, {0, 4, 0, 2}, {0, 4, 0, 5}, {1, 99}, {0, 4}, {0, 3, 0, 2, 0, 3, 0, 4, 0, 14}, {0, 2},
+        {-1, 4}, {0, 4}, {-1, 4}, {0, 3, 0, 2, 0, 9}, {0, 1}, {0, 3, 0, 3, 0, 3}, {0, 2}, {0, 4}, {0, 4},
+        {0, 4, 0, 12, 0, 5, 0, 1}, {0, 3, 0, 2, 0, 20}, {0, 3}, {0, 3, 0, 20, -300, 300}, {0, 3, 0, 20, 0, 2},
+        {0, 3, 0, 9, 0, 3, 0, 9, 0, 9}, {0, 4}, {0, 4}, {0, 4, 0, 2}, {}, {}, {0, 4}};
+
+    private void ask(int run, int which) {
+        int[] range = RANGES[which];
+        int[] args = new int[5];
+        for (int k = 0; 2 * k < range.length; k++) {
+            args[k] = some(range[2 * k], range[2 * k + 1]);
+        }
+        a = args[0];
+        b = args[1];
+        c = args[2];
+        d = args[3];
+        e = args[4];
+        first = chance.nextInt(2) == 0 ? chance.nextInt(20) - 1 : (chance.nextLong() >>> 4) + chance.nextInt(2);
+        String call = "run " + run + " " + NAMES[which] + "(" + a + ", " + b + ", " + c + ", " + d + ", " + e + "; "
+            + first + ")";
+        due.is(call, ofClass(which), ofModel(which));
+    }
+
+    private long ofClass(int which) {
+        switch (which) {
+            case 0: return x.ring(a, b, c, d);
+            case 1: return x.ofPlace(a, b);
+            case 2: return x.write(a, b);
+            case 3: return x.steps(a);
+            case 4: return x.after(a, first);
+            case 5: return x.day(a, b, c, d, e);
+            case 6: return x.now(a);
+            case 7: return x.from(a);
+            case 8: return x.rows(a);
+            case 9: return x.longest(a);
+            case 10: return x.meet(a, b, c);
+            case 11: return x.few(a);
+            case 12: return x.reading(a, b, c);
+            case 13: return x.back(a);
+            case 14: return x.kinds(a);
+            case 15: return x.firsts(a);
+            case 16: return x.odds(a, b, c, d);
+            case 17: return x.sheet(a, b, c);
+            case 18: return x.lose(a);
+            case 19: return x.put(a, b, c);
+            case 20: return x.cell(a, b, c);
+            case 21: return x.copy(a, b, c, d, e);
+            case 22: return x.tell(a);
+            case 23: return x.call(a);
+            case 24: return x.as(a, b);
+            case 25: return x.trace();
+            case 26: return x.fault();
+            default: return x.many(a);
+        }
+    }
+
+    private long ofModel(int which) {
+        switch (which) {
+            case 0: return m.ring(a, b, c, d);
+            case 1: return m.ofPlace(a, b);
+            case 2: return m.write(a, b);
+            case 3: return m.steps(a);
+            case 4: return m.after(a, first);
+            case 5: return m.day(a, b, c, d, e);
+            case 6: return m.now(a);
+            case 7: return m.from(a);
+            case 8: return m.rows(a);
+            case 9: return m.longest(a);
+            case 10: return m.meet(a, b, c);
+            case 11: return m.few(a);
+            case 12: return m.reading(a, b, c);
+            case 13: return m.back(a);
+            case 14: return m.kinds(a);
+            case 15: return m.firsts(a);
+            case 16: return m.odds(a, b, c, d);
+            case 17: return m.sheet(a, b, c);
+            case 18: return m.lose(a);
+            case 19: return m.put(a, b, c);
+            case 20: return m.cell(a, b, c);
+            case 21: return m.copy(a, b, c, d, e);
+            case 22: return m.tell(a);
+            case 23: return m.call(a);
+            case 24: return m.as(a, b);
+            case 25: return m.trace();
+            case 26: return m.fault();
+            default: return m.many(a);
+        }
+    }
+}
