@@ -18,15 +18,16 @@ final class Due {
         }
     }
 
-    /** The same answer for calls 0 .. n less 1. */
+    /** A call of 0, of 1 and so on, each with an answer of its own. */
     void row(String call, long[] want, java.util.function.LongUnaryOperator got) {
         for (int k = 0; k < want.length; k++) {
             is(call + " " + k, got.applyAsLong(k), want[k]);
         }
     }
 
-    /** A call, and the FAULT that is told behind it. */
+    /** A call, and the FAULT that is told behind it, where another one was told ahead of it. */
     void faults(DifferRings x, String call, LongSupplier got, long want, int fault) {
+        x.sheet(fault == 4 ? 9 : 0, 0, -1);
         is(call, got.getAsLong(), want);
         is(call + ", then fault()", x.fault(), fault);
     }

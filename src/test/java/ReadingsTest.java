@@ -129,6 +129,8 @@ public final class ReadingsTest {
                 }
             }
         }
+        DUE.is("in least terms at once: upper", x.odds(2, 2, 0, 0), 121);
+        DUE.is("in least terms at once: lower", x.odds(2, 2, 0, 1), 625);
         DUE.is("never: upper", x.odds(3, 99, 5, 0), 0);
         DUE.is("never: lower", x.odds(3, 99, 5, 1), 1);
         DUE.is("place 4", x.odds(4, 0, 0, 0), lost);

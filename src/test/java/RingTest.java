@@ -108,7 +108,8 @@ public final class RingTest {
         DUE.is("anew: rows", x.rows(0), 27);
         DUE.is("anew: rounds", x.rows(4), 3);
         DUE.is("anew: kinds", x.kinds(0), 7);
-        DUE.is("anew: odds", x.odds(0, 0, 0, 1), 3);
+        // Of 9 pairs 3 are alike; behind 3 STEPS of the RING ahead it was another share.
+        DUE.is("anew: odds", x.odds(0, 1, 0, 1), 3);
         DUE.is("anew: no place 3", x.ofPlace(3, 1), -1);
         DUE.is("the same ring once more", Due.tell(x, "r3;p1;p2;p0"), 3);
         DUE.row("once more: number", new long[] {1, 2, 0, -1}, k -> x.ofPlace((int) k, 1));
@@ -116,6 +117,20 @@ public final class RingTest {
         DUE.row("greater: rows", new long[] {7776, 6, 7087, 12, 38}, k -> x.rows((int) k));
         DUE.is("a lesser ring", Due.tell(x, "r2;p0;p1"), 2);
         DUE.row("lesser: rows", new long[] {4, 1, 2, 4, 1}, k -> x.rows((int) k));
+        DUE.row("lesser: longest, less 1", new long[] {2, 0, 1, -9, -9, -9}, k -> x.longest((int) k - 1));
+        DUE.row("lesser: now", new long[] {2, 1, 1}, k -> x.now((int) k));
+        x.steps(2);
+        DUE.row("lesser: out", new long[] {0, 1, 1}, k -> x.now((int) k));
+        DUE.is("lesser: zeros", x.many(3), 2);
+        DUE.is("lesser: all numbers of a day", x.day(3, 0, 0, 0, 0), 0);
+        DUE.is("lesser: never 1 behind 2", x.odds(0, 2, 1, 0), 0);
+        DUE.is("one as great", Due.tell(x, "r2;m1;m0"), 2);
+        // Of two, MIXED ones are as PLAIN ones: a FAR one is 0 by itself.
+        DUE.is("as great: 0 behind 2", x.odds(0, 2, 0, 1), 1);
+        DUE.is("one more as great", Due.tell(x, "r2;f1;p1"), 2);
+        DUE.row("as great: rows", new long[] {4, 2, 2, 2, 2}, k -> x.rows((int) k));
+        DUE.row("as great: longest, less 1", new long[] {1, 1, 0, -9, -9, -9}, k -> x.longest((int) k - 1));
+        DUE.is("as great: 1 behind 2", x.odds(1, 2, 1, 1), 2);
     }
 
     private static void faultyTextChangesNothing() {

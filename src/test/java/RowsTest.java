@@ -41,6 +41,11 @@ public final class RowsTest {
     }
 
     private static void answers(String text, long[] now, long[] rows, long[] longest, long[] from, long[] few) {
+        DUE.row(text + " now, asked first", now, k -> Due.ringOf(text).now((int) k));
+        DUE.row(text + " rows, asked first", rows, k -> Due.ringOf(text).rows((int) k));
+        DUE.row(text + " longest, less 1, asked first", longest, k -> Due.ringOf(text).longest((int) k - 1));
+        DUE.row(text + " from, less 1, asked first", from, k -> Due.ringOf(text).from((int) k - 1));
+        DUE.row(text + " few, asked first", few, k -> Due.ringOf(text).few((int) k));
         DifferRings x = Due.ringOf(text);
         DUE.row(text + " few", few, k -> x.few((int) k));
         DUE.row(text + " now", now, k -> x.now((int) k));
@@ -90,6 +95,10 @@ public final class RowsTest {
         DUE.is("all alike, out first", x.meet(0, 0, 8), 5);
         DUE.is("out", x.meet(0, 0, 12), 5);
         DUE.row("nothing changed", new long[] {3, 0, 1, 2}, k -> x.ofPlace((int) k, 1));
+        x.write(0, 0);
+        x.write(2, 1);
+        x.write(3, 3);
+        DUE.is("behind as many as the longest takes", x.meet(0, 0, 12), 6);
         DifferRings y = Due.ringOf("r3;p1;p1;p0");
         Due.fill(y, 1, 2, 0, 1, 1, 1, 0, 1, 1, 2, 0, 0, 0, 0, 1, 1, 2, 2);
         DUE.is("as far behind in the same round", y.meet(1, 2, 0), -9);

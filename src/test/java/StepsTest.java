@@ -88,6 +88,11 @@ public final class StepsTest {
         DUE.is("out again", out.day(1, 1, 0, 8, 3), 5);
         DUE.is("steps of it", out.day(1, 1, 0, 8, 2), 99);
         DUE.is("tail of it", out.day(1, 1, 0, 8, 4), 0);
+        DifferRings five = Due.ringOf("r6;p0;f1;m2;p3;f5");
+        Due.fill(five, 2, 2, 1, 9);
+        DUE.row("of five", new long[] {13, -9, 1, 0, 1, 1, 2, 4, 2, 4}, k -> five.day(2, 2, 0, 1, whats[(int) k]));
+        Due.tell(five, "r2;p0;p1");
+        DUE.row("of two then", new long[] {2, -9, 1, 0, 1, 1, 1, -9, -9, -9}, k -> five.day(2, 2, 0, 1, whats[(int) k]));
         DifferRings many = withActs(new int[40]);
         DUE.is("20 acts", many.day(1, 1, 0, 20, 0), 4);
         DUE.is("fault", many.fault(), 0);
