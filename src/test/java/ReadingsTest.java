@@ -30,6 +30,16 @@ public final class ReadingsTest {
         DUE.is("unknown ahead of full", x.reading(0, 4, 0), -1);
         DUE.is("outside ahead of full", x.reading(100, 0, 0), -2);
         DUE.is("readings", x.many(4), 8);
+        DifferRings y = Due.ringOf("r5;p4;f1;m3;p0");
+        long[] numbers = {4, 3, 2, 1, 1, 0, 1, 1};
+        for (int t = 0; t < 8; t++) {
+            y.reading(t, 0, (int) numbers[t]);
+        }
+        DUE.row("all eight are so", new long[] {1, 2, 7, 1}, k -> y.kinds((int) k));
+        DUE.row("by all eight", new long[] {16, 2, 31, 5}, k -> y.firsts((int) k));
+        y.back(1);
+        y.reading(7, 0, 0);
+        DUE.row("the eighth is not", new long[] {0, 0, 0, 0}, k -> y.kinds((int) k));
     }
 
     private static void back() {
