@@ -38,6 +38,8 @@ public final class ModelTest {
                 calls += text(run);
             } else if (chance.nextInt(20) == 0) {
                 calls += numbers(run);
+            } else if (chance.nextInt(20) == 0) {
+                calls += trueReading(run);
             } else {
                 ask(run, chance.nextInt(NAMES.length));
                 calls++;
@@ -54,12 +56,11 @@ public final class ModelTest {
         }
     }
 
-    /** A TEXT, often one with a fault; few PLACES as a rule, since the model is slow. */
+    /** A TEXT, often one with a fault. */
     private int text(int run) {
-        int places = chance.nextInt(6) == 0 ? chance.nextInt(8) : 2 + chance.nextInt(3);
-        int most = places > 3 ? 3 : 6;
+        int places = chance.nextInt(6) == 0 ? chance.nextInt(8) : 2 + chance.nextInt(4);
         StringBuilder text = new StringBuilder("r");
-        int base = 2 + chance.nextInt(most - 1);
+        int base = 2 + chance.nextInt(5);
         text.append(base);
         for (int p = 0; p < places; p++) {
             text.append(';').append("pfm".charAt(chance.nextInt(3))).append(chance.nextInt(base));
@@ -103,6 +104,19 @@ public final class ModelTest {
         return calls;
     }
 
+    /** A READING that is so, that the sets are not empty each time. */
+    private int trueReading(int run) {
+        int t = chance.nextInt(chance.nextInt(2) == 0 ? 3 : 100);
+        int p = chance.nextInt(5);
+        int v = (int) m.after(p, t);
+        due.is("run " + run + " true reading", x.reading(t, p, v), m.reading(t, p, v));
+        for (int q = 0; q < 5; q++) {
+            due.is("run " + run + " kinds " + q, x.kinds(q), m.kinds(q));
+            due.is("run " + run + " firsts " + q, x.firsts(q), m.firsts(q));
+        }
+        return 11;
+    }
+
     private int some(int least, int most) {
         int wild = chance.nextInt(60);
         if (wild == 0) {
@@ -116,7 +130,7 @@ public final class ModelTest {
 
     private static final int[][] RANGES = {
         {0, 3, 0, 2, 0, 5, 0, 20}, {0, 4, 0, 2}, {0, 4, 0, 5}, {1, 99}, {0, 4}, {0, 3, 0, 2, 0, 3, 0, 4, 0, 14}, {0, 2},
-        {-1, 4}, {0, 4}, {-1, 4}, {0, 3, 0, 2, 0, 9}, {0, 1}, {0, 3, 0, 3, 0, 3}, {0, 2}, {0, 4}, {0, 4},
+        {-1, 4}, {0, 4}, {-1, 4}, {0, 3, 0, 2, 0, 9}, {0, 1}, {0, 9, 0, 4, 0, 3}, {0, 2}, {0, 4}, {0, 4},
         {0, 4, 0, 12, 0, 5, 0, 1}, {0, 3, 0, 2, 0, 20}, {0, 3}, {0, 3, 0, 20, -300, 300}, {0, 3, 0, 20, 0, 2},
         {0, 3, 0, 9, 0, 3, 0, 9, 0, 9}, {0, 4}, {0, 4}, {0, 4, 0, 2}, {}, {}, {0, 4}};
 
