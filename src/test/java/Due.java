@@ -32,6 +32,10 @@ final class Due {
         is(call + ", then fault()", x.fault(), fault);
     }
 
+    int asked() {
+        return asked;
+    }
+
     void holds(String what, boolean so) {
         is(what, so ? 1 : 0, 1);
     }
