@@ -969,7 +969,8 @@ public final class DifferRings {
                 left = tailThen + (left - tailThen) % round;
             }
             int at = row;
-            for (long s = 0; s < left; s++) {
+            // A TAIL and a ROUND together are no more than there are ROWS.
+            for (int s = 0; s < left && s < count; s++) {
                 at = nextOf(at);
             }
             return at;

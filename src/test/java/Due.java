@@ -1,7 +1,10 @@
 import java.util.function.LongSupplier;
+import java.util.function.LongUnaryOperator;
+import java.util.function.Supplier;
 
 /** Counts the answers of a test that are not the ones that are due. */
 final class Due {
+    private static final int MOST_TOLD = 100;
     private final String name;
     private int asked = 0;
     private int wrong = 0;
@@ -11,15 +14,22 @@ final class Due {
     }
 
     void is(String call, long got, long want) {
+        is(() -> call, got, want);
+    }
+
+    /** As the other one, for calls so many that their names are made only where they are wrong. */
+    void is(Supplier<String> call, long got, long want) {
         asked++;
         if (got != want) {
             wrong++;
-            System.out.println(name + ": " + call + " answered " + got + ", due is " + want);
+        }
+        if (got != want && wrong <= MOST_TOLD) {
+            System.out.println(name + ": " + call.get() + " answered " + got + ", due is " + want);
         }
     }
 
     /** A call of 0, of 1 and so on, each with an answer of its own. */
-    void row(String call, long[] want, java.util.function.LongUnaryOperator got) {
+    void row(String call, long[] want, LongUnaryOperator got) {
         for (int k = 0; k < want.length; k++) {
             is(call + " " + k, got.applyAsLong(k), want[k]);
         }

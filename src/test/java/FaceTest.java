@@ -30,6 +30,7 @@ public final class FaceTest {
         for (Class<?> inside : face.getDeclaredClasses()) {
             due.holds(inside + " is static", Modifier.isStatic(inside.getModifiers()));
             due.holds(inside + " is not public", !Modifier.isPublic(inside.getModifiers()));
+            insideOf(due, inside);
         }
         due.holds("at most twelve classes", face.getDeclaredClasses().length < 12);
         due.end();
@@ -51,6 +52,21 @@ public final class FaceTest {
         due.holds("the methods are " + want + ", not " + got, want.equals(got));
         for (Method m : face.getDeclaredMethods()) {
             due.holds("no private " + m.getName(), !Modifier.isPrivate(m.getModifiers()) || !names.contains(m.getName()));
+            due.holds("few parameters of " + m, m.getParameterCount() <= 7);
+        }
+    }
+
+    private static void insideOf(Due due, Class<?> inside) {
+        int fields = 0;
+        for (Field f : inside.getDeclaredFields()) {
+            boolean isStatic = Modifier.isStatic(f.getModifiers());
+            due.holds("static " + f + " is final", !isStatic || Modifier.isFinal(f.getModifiers()));
+            fields += isStatic ? 0 : 1;
+        }
+        due.holds("at most twenty fields in " + inside, fields <= 20);
+        for (Method m : inside.getDeclaredMethods()) {
+            String call = " " + m.getName() + "(";
+            due.holds("no call's name for " + m, Arrays.stream(FACE).noneMatch(one -> one.contains(call)));
             due.holds("few parameters of " + m, m.getParameterCount() <= 7);
         }
     }

@@ -1,25 +1,14 @@
+import java.util.Arrays;
 import java.util.Random;
 
 /** Runs of calls by chance (always the same ones), each answered by the class and by the model. */
 public final class ModelTest {
     private static final int RUNS = 400;
     private static final int CALLS = 500;
-    private static final String[] NAMES = {
-        "ring", "ofPlace", "write", "steps", "after", "day", "now", "from", "rows", "longest", "meet", "few", "reading",
-        "back", "kinds", "firsts", "odds", "sheet", "lose", "put", "cell", "copy", "tell", "call", "as", "trace",
-        "fault", "many"};
-
     private final Due due = new Due("ModelTest");
     private final Random chance = new Random(20261117);
     private DifferRings x;
     private Model m;
-    private int lane;
-    private long first;
-    private int a;
-    private int b;
-    private int c;
-    private int d;
-    private int e;
 
     public static void main(String[] args) {
         ModelTest test = new ModelTest();
@@ -41,7 +30,7 @@ public final class ModelTest {
             } else if (chance.nextInt(20) == 0) {
                 calls += trueReading(run);
             } else {
-                ask(run, chance.nextInt(NAMES.length));
+                ask(run, chance.nextInt(Calls.NAMES.length));
                 calls++;
             }
             due.is("run " + run + " fault()", x.fault(), m.fault());
@@ -136,84 +125,14 @@ public final class ModelTest {
 
     private void ask(int run, int which) {
         int[] range = RANGES[which];
-        int[] args = new int[5];
+        long[] v = new long[5];
         for (int k = 0; 2 * k < range.length; k++) {
-            args[k] = some(range[2 * k], range[2 * k + 1]);
+            v[k] = some(range[2 * k], range[2 * k + 1]);
         }
-        a = args[0];
-        b = args[1];
-        c = args[2];
-        d = args[3];
-        e = args[4];
-        first = chance.nextInt(2) == 0 ? chance.nextInt(20) - 1 : (chance.nextLong() >>> 4) + chance.nextInt(2);
-        String call = "run " + run + " " + NAMES[which] + "(" + a + ", " + b + ", " + c + ", " + d + ", " + e + "; "
-            + first + ")";
-        due.is(call, ofClass(which), ofModel(which));
-    }
-
-    private long ofClass(int which) {
-        switch (which) {
-            case 0: return x.ring(a, b, c, d);
-            case 1: return x.ofPlace(a, b);
-            case 2: return x.write(a, b);
-            case 3: return x.steps(a);
-            case 4: return x.after(a, first);
-            case 5: return x.day(a, b, c, d, e);
-            case 6: return x.now(a);
-            case 7: return x.from(a);
-            case 8: return x.rows(a);
-            case 9: return x.longest(a);
-            case 10: return x.meet(a, b, c);
-            case 11: return x.few(a);
-            case 12: return x.reading(a, b, c);
-            case 13: return x.back(a);
-            case 14: return x.kinds(a);
-            case 15: return x.firsts(a);
-            case 16: return x.odds(a, b, c, d);
-            case 17: return x.sheet(a, b, c);
-            case 18: return x.lose(a);
-            case 19: return x.put(a, b, c);
-            case 20: return x.cell(a, b, c);
-            case 21: return x.copy(a, b, c, d, e);
-            case 22: return x.tell(a);
-            case 23: return x.call(a);
-            case 24: return x.as(a, b);
-            case 25: return x.trace();
-            case 26: return x.fault();
-            default: return x.many(a);
+        if (which == Calls.numberOf("after")) {
+            v[1] = chance.nextInt(2) == 0 ? chance.nextInt(20) - 1 : (chance.nextLong() >>> 4) + chance.nextInt(2);
         }
-    }
-
-    private long ofModel(int which) {
-        switch (which) {
-            case 0: return m.ring(a, b, c, d);
-            case 1: return m.ofPlace(a, b);
-            case 2: return m.write(a, b);
-            case 3: return m.steps(a);
-            case 4: return m.after(a, first);
-            case 5: return m.day(a, b, c, d, e);
-            case 6: return m.now(a);
-            case 7: return m.from(a);
-            case 8: return m.rows(a);
-            case 9: return m.longest(a);
-            case 10: return m.meet(a, b, c);
-            case 11: return m.few(a);
-            case 12: return m.reading(a, b, c);
-            case 13: return m.back(a);
-            case 14: return m.kinds(a);
-            case 15: return m.firsts(a);
-            case 16: return m.odds(a, b, c, d);
-            case 17: return m.sheet(a, b, c);
-            case 18: return m.lose(a);
-            case 19: return m.put(a, b, c);
-            case 20: return m.cell(a, b, c);
-            case 21: return m.copy(a, b, c, d, e);
-            case 22: return m.tell(a);
-            case 23: return m.call(a);
-            case 24: return m.as(a, b);
-            case 25: return m.trace();
-            case 26: return m.fault();
-            default: return m.many(a);
-        }
+        String call = "run " + run + " " + Calls.NAMES[which] + " " + Arrays.toString(v);
+        due.is(call, Calls.ofClass(x, which, v), Calls.ofModel(m, which, v));
     }
 }

@@ -1,6 +1,8 @@
 /** The document's part 1, and promises 1 to 4: a new object, ring, ofPlace, write. */
 final class RingBounds {
     private static final String TEXT = "r6;p0;f1;m2;p3;f4";
+    /** a b becomes 0 and how far b is from a, and stays so. */
+    private static final String FAR_PLAIN = "r6;f0;p0";
 
     private final Bounds b;
 
@@ -166,6 +168,14 @@ final class RingBounds {
                     b.is("number " + p, x.ofPlace(p, 1), text.charAt(4 + 3 * p) - '0');
                 }
             }
+            anewThoughAsked("r5;m0;m0;f0;f0;f0", FAR_PLAIN);
+            anewThoughAsked("r2;p0;p0", FAR_PLAIN);
+            anewThoughAsked("r6;p0;p0", FAR_PLAIN);
+            // Of the five, 0 0 0 1 1 goes round; it has the number among ROWS that 1 1 has of the two, which goes out.
+            DifferRings lesser = Due.ringOf("r2;p0;p0;p0;p0;p0");
+            b.row("rows of five", 0, new long[] {32, 1, 16, 2, 2}, k -> lesser.rows((int) k));
+            Due.tell(lesser, "r2;p0;p0");
+            b.row("rows of two behind five", 0, new long[] {4, 1, 2, 4, 1}, k -> lesser.rows((int) k));
             DifferRings kept = Bounds.fullOfReadings();
             b.is("one that is not taken", kept.ring(3, 0, 0, 13), -113);
             b.is("steps are kept", kept.many(2), 2);
@@ -204,6 +214,19 @@ final class RingBounds {
             next("r6;m0;m5;m5;m5;m0", 4, 0, 5, 4, 5);
             next("r2;m0;m1;m1", 0, 1, 1);
         });
+    }
+
+    /** What was worked out for a TEXT is nothing to the next one: the RING of a FAR and a PLAIN one is known by hand. */
+    private void anewThoughAsked(String ahead, String text) {
+        DifferRings x = Due.ringOf(ahead);
+        x.rows(4);
+        x.odds(0, 1, 0, 0);
+        b.is(text + " behind " + ahead, Due.tell(x, text), 2);
+        b.row("rows behind " + ahead, 0, new long[] {36, 6, 30, 6, 6}, k -> x.rows((int) k));
+        b.row("longest behind " + ahead, -1, new long[] {1, 1, 0, -9, -9, -9}, k -> x.longest((int) k));
+        b.row("upper of the first", 0, new long[] {1, 0, 0, 0, 0, 0}, v -> x.odds(0, 1, (int) v, 0));
+        b.row("lower of the second", 0, new long[] {6, 18, 9, 6, 9, 18}, v -> x.odds(1, 1, (int) v, 1));
+        b.row("lower of now", 0, new long[] {6, 6, 6, 6, 6, 6}, v -> x.odds(1, 0, (int) v, 1));
     }
 
     private void newObject() {

@@ -68,6 +68,12 @@ final class StepsBounds {
             b.row("number", 0, new long[] {0, 3, 2, 1}, p -> x.day(1, 1, 0, 2, 10 + (int) p));
             b.row("once more", 0, new long[] {0, 3, 2, 1}, p -> x.day(1, 1, 0, 2, 10 + (int) p));
             b.is("steps that were done", x.many(2), 1);
+            DifferRings twice = withActs("r2;p0;p0", 1, 2, 0, 9, 9, 9);
+            b.is("a wrong one", twice.day(1, 1, 0, 1, 0), -100);
+            b.is("a right one behind it", twice.day(1, 1, 2, 2, 1), -9);
+            b.row("its outs, each time", 0, new long[] {2, 2, 2}, k -> twice.day(1, 1, 2, 2, 3));
+            b.row("its steps, each time", 0, new long[] {9, 9, 9}, k -> twice.day(1, 1, 2, 2, 2));
+            b.is("the wrong one again", twice.day(1, 1, 0, 3, 1), 0);
             for (int what : WHATS) {
                 long want = Bounds.full().day(1, 1, 0, 2, what);
                 DifferRings asked = Bounds.full();
