@@ -146,6 +146,19 @@ final class StepsBounds {
         });
     }
 
+    /** NUMBERS of a RING so many STEPS on, by STEPS that are done on another one that is as it. */
+    private static long[] numbersBehind(DifferRings x, int steps) {
+        StringBuilder text = new StringBuilder("r" + x.many(1));
+        for (int p = 0; p < x.many(0); p++) {
+            text.append(';').append("pfm".charAt(x.ofPlace(p, 0))).append(x.ofPlace(p, 1));
+        }
+        DifferRings walker = Due.ringOf(text.toString());
+        walker.steps(steps);
+        long[] numbers = new long[x.many(0)];
+        Arrays.setAll(numbers, p -> walker.ofPlace(p, 1));
+        return numbers;
+    }
+
     private void after() {
         b.section("Promise 6");
         b.says("NUMBER of a PLACE behind t STEPS more (0 .. 1000000000000000000)", () -> {
@@ -164,6 +177,13 @@ final class StepsBounds {
             b.row("more than three, place", 0, WAY[4], p -> x.after((int) p, 1));
             b.row("none more than three, place", 0, WAY[3], p -> x.after((int) p, 0));
             b.is("the last of five", Due.ringOf("r6;p0;f1;m2;p3;f5").after(4, 1), 4);
+            DifferRings out = Due.ringOf("r6;p5;p0");
+            b.row("out, the most on, place", 0, new long[] {0, 0, -1}, p -> out.after((int) p, MOST_STEPS));
+            DifferRings stays = Due.ringOf("r6;f5;p0");
+            b.row("one that stays, the most on, place", 0, new long[] {0, 5, -1}, p -> stays.after((int) p, MOST_STEPS));
+            DifferRings goes = Due.ringOf("r4;m0;m0;m0;m0;m1");
+            // It goes round by 45, of which the most leaves 10, and its TAIL is less than 10.
+            b.row("a long round, the most on, place", 0, numbersBehind(goes, 55), p -> goes.after((int) p, MOST_STEPS));
         });
         b.says("UNKNOWN", () -> {
             for (int p : Bounds.beyond(0, 3)) {
