@@ -158,8 +158,7 @@ public final class DifferRings {
                 all.workOut(live);
                 return all.tailOf(trial.code());
             default:
-                int p = what - DAY_PLACE;
-                return trial.has(p) ? trial.number[p] : NONE;
+                return trial.numberAt(what - DAY_PLACE);
         }
     }
 
@@ -590,6 +589,11 @@ public final class DifferRings {
             return p >= 0 && p < size;
         }
 
+        /** NONE, if there is no such PLACE. */
+        int numberAt(int p) {
+            return has(p) ? number[p] : NONE;
+        }
+
         boolean isNumber(int v) {
             return v >= 0 && v < base;
         }
@@ -860,8 +864,11 @@ public final class DifferRings {
             Arrays.fill(comers, 0);
             probe.takeFirstRow();
             for (int row = 0; row < count; row++) {
-                next[row] = probe.steppedCode();
-                comers[next[row]]++;
+                int to = probe.steppedCode();
+                if (isRow(to)) {
+                    next[row] = to;
+                    comers[to]++;
+                }
                 probe.takeNextRow();
             }
         }
@@ -871,18 +878,23 @@ public final class DifferRings {
             ordered = 0;
             for (int row = 0; row < count; row++) {
                 if (comers[row] == 0) {
-                    order[ordered] = row;
-                    ordered++;
+                    takeAway(row);
                 }
             }
             barren = ordered;
             for (int at = 0; at < ordered && at < count; at++) {
-                int to = next[order[at]];
+                int to = nextOf(order[at]);
                 comers[to]--;
                 if (comers[to] == 0) {
-                    order[ordered] = to;
-                    ordered++;
+                    takeAway(to);
                 }
+            }
+        }
+
+        private void takeAway(int row) {
+            if (ordered < count) {
+                order[ordered] = row;
+                ordered++;
             }
         }
 
@@ -903,7 +915,7 @@ public final class DifferRings {
             for (int s = 0; s < count && root[row] == NONE; s++) {
                 root[row] = first;
                 tail[row] = 0;
-                row = next[row];
+                row = nextOf(row);
             }
         }
 
@@ -911,8 +923,11 @@ public final class DifferRings {
         private void findTails() {
             for (int at = ordered - 1; at >= 0; at--) {
                 int row = order[at];
-                tail[row] = tail[next[row]] + 1;
-                root[row] = root[next[row]];
+                int to = nextOf(row);
+                if (isRow(row)) {
+                    tail[row] = tail[to] + 1;
+                    root[row] = root[to];
+                }
             }
         }
 
@@ -939,6 +954,7 @@ public final class DifferRings {
             return row >= 0 && row < count;
         }
 
+        /** Always a ROW. */
         int nextOf(int row) {
             return isRow(row) ? next[row] : 0;
         }
@@ -1095,11 +1111,10 @@ public final class DifferRings {
             int kept = 0;
             for (int at = 0; at < unlike; at++) {
                 int to = all.nextOf(row[at]);
-                int known = place[to];
-                // What stands in place may be of an earlier STEP: it counts only if it leads to the ROW itself.
-                if (known < kept && row[known] == to) {
+                int known = whereKept(to, kept);
+                if (known != NONE) {
                     weight[known] += weight[at];
-                } else {
+                } else if (to < place.length) {
                     place[to] = kept;
                     row[kept] = to;
                     weight[kept] = weight[at];
@@ -1107,6 +1122,12 @@ public final class DifferRings {
                 }
             }
             unlike = kept;
+        }
+
+        /** What stands in place may be of an earlier STEP: it counts only if it leads to the ROW itself. */
+        private int whereKept(int to, int kept) {
+            int known = to < place.length ? place[to] : NONE;
+            return known >= 0 && known < kept && row[known] == to ? known : NONE;
         }
 
         int howMany(AllRows all, int p, int v) {
@@ -1160,7 +1181,7 @@ public final class DifferRings {
 
         private boolean areSoAt(int t, Ring ring) {
             for (int k = 0; k < count; k++) {
-                if (time[k] == t && ring.number[place[k]] != number[k]) {
+                if (time[k] == t && ring.numberAt(place[k]) != number[k]) {
                     return false;
                 }
             }

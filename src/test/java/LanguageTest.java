@@ -27,6 +27,7 @@ public final class LanguageTest {
         imports(code);
         libraryCalls(code);
         endlessLoops(code);
+        indexesLookedAt(code);
         methodLengths(code);
         DUE.end();
     }
@@ -56,6 +57,12 @@ public final class LanguageTest {
         while (m.find()) {
             DUE.holds("for has a bound: " + m.group(), Pattern.compile("[<>]").matcher(m.group(2)).find());
         }
+    }
+
+    /** What stands in an array is no index of another one before it has been looked at. */
+    private static void indexesLookedAt(String code) {
+        Matcher m = Pattern.compile("\\w\\[[^\\[\\]]*\\[.*").matcher(code);
+        DUE.holds("no index out of an array: " + (m.find() ? m.group() : ""), !m.reset().find());
     }
 
     /** A method begins behind four or eight blanks and ends with a brace behind as many. */
